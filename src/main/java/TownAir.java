@@ -806,15 +806,6 @@ public final class TownAir {
             return many;
         }
 
-        boolean areMenNextTo(Told told, int lord, int q) {
-            for (int m = 0; m < told.men; m++) {
-                if (told.master[m] == lord && told.areNext(post[m], q)) {
-                    return true;
-                }
-            }
-            return false;
-        }
-
         /** Would this SERF be TAKEN, or MET as a RENAMED one, if he lived in q on this DAY? */
         boolean isFoundIn(Told told, int s, int q) {
             int lord = told.lord[s];
@@ -823,7 +814,8 @@ public final class TownAir {
                 return met && !told.hasGuild(q);
             }
             if (told.kind[s] == MOTHER) {
-                return met || areMenNextTo(told, lord, q);
+                return met || menIn(told, lord, told.onRing(q + 1)) > 0
+                        || menIn(told, lord, told.onRing(q + told.quarters - 1)) > 0;
             }
             return met;
         }

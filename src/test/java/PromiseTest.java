@@ -101,7 +101,7 @@ public final class PromiseTest {
     String[] bad = {" ", "x", "n", ";", "n;", "n1;", "n61;", "n0;", "n5", "n5,", "n5,6;", "n,5;", "n005;", "n60", "n6 ;", "n-5;", "N5;",
         "c1;", "c7;", "c0;", "c4,4;", "c;", "c44;", "g4;", "g;", "g0,0;", "g04", "s4,0,0;", "s0,3,0;", "s0,0,4;", "s0,0;", "s0,0,0,0;",
         "s0,0,0", "s0,0,0,", "s,0,0;", "s0,,0;", "s0;0;0;", "m3,0,0;", "m0,4,0;", "m0,0,6;", "m0,0;", "m0,0,0,0;", "m0,0,10;", "w5,4;",
-        "w0;", "w0,100;", "w100,0;", "w0,0,0;", "w0,0", "w 0,0;", "d5;", "n5.", "5;", ",", "nn5;", "n5:"};
+        "w0;", "w0,100;", "w100,0;", "w0,0,0;", "w0,0", "w 0,0;", "d5;", "n5.", "5;", ",", "nn5;", "n5:", "n:;", "w/,5;", "s0,0,/;", "m0,:,0;"};
     for (String text : bad) {
       faultIs(text, 0);
       faultIs("n7;" + text, 3);
@@ -493,6 +493,14 @@ public final class PromiseTest {
     TownAir late = Due.laid("n60;c6;s0,0,0;s0,0,1;s0,1,1;m1,1,0;");
     late.pass(1);
     Due.is("those taken before count", late.hunt(0, 1), 3);
+    // serf 0 in 3 lacks one day, serf 1 in 2 lacks two: only 3 and then 2 takes both
+    TownAir turn = Due.laid("n3;c6;s0,0,3;s0,0,2;");
+    turn.leave(1);
+    turn.pass(1);
+    turn.move(1, 2);
+    turn.pass(1);
+    Due.is("hunt by five", turn.hunt(0, 0), 35);
+    Due.is("hunt by five, how many", turn.hunt(0, 1), 2);
     for (int n : new int[] {Integer.MIN_VALUE, -1, 3, Integer.MAX_VALUE}) Due.is("hunt lord " + n, t.hunt(n, 0), BAD);
     for (int n : new int[] {Integer.MIN_VALUE, -1, 2, Integer.MAX_VALUE}) Due.is("hunt what " + n, t.hunt(0, n), BAD);
     Due.is("men are as many", t.count(1), 2);
