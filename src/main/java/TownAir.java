@@ -428,8 +428,10 @@ public final class TownAir {
     private int takenWithOneMore(int lord, int q, int step) {
         supposed.copy(laid);
         then.copy(now);
-        then.post[supposed.men] = q;
-        supposed.addMan(lord, q, step);
+        if (!supposed.addMan(lord, q, step)) {
+            return NONE;
+        }
+        then.post[supposed.men - 1] = q;
         // Once nobody is INSIDE, the DAYS that are left change nothing.
         for (int d = 0; d < HUNT_DAYS && then.howMany(supposed, INSIDE) > 0; d++) {
             then.goDay(supposed);
@@ -684,18 +686,18 @@ public final class TownAir {
                     || men >= MOST_MEN) {
                 return false;
             }
-            addMan(l, a, b);
-            return true;
+            return addMan(l, a, b);
         }
 
-        void addMan(int l, int a, int b) {
+        boolean addMan(int l, int a, int b) {
             if (men > MOST_MEN) {
-                return;
+                return false;
             }
             master[men] = l;
             post[men] = a;
             step[men] = b;
             men++;
+            return true;
         }
 
         boolean acceptsNotch(int f, int t) {

@@ -92,14 +92,15 @@ public final class RuleTest {
   static void room() {
     com.sun.management.ThreadMXBean bean = (com.sun.management.ThreadMXBean) ManagementFactory.getThreadMXBean();
     long id = Thread.currentThread().getId();
-    TownAir t = new TownAir();
-    everyCall(t, 1);
+    TownAir[] asked = new TownAir[20];
+    for (int i = 0; i < asked.length; i++) asked[i] = new TownAir();
+    everyCall(asked[0], 1);
     long before = bean.getThreadAllocatedBytes(id);
-    for (int i = 0; i < 20; i++) everyCall(t, i);
+    for (int i = 0; i < asked.length; i++) everyCall(asked[i], i);
     long used = bean.getThreadAllocatedBytes(id) - before;
     Due.is("bytes made by calls (" + used + ")", used < 10000 ? 1 : 0, 1);
     long ahead = bean.getThreadAllocatedBytes(id);
-    t = new TownAir();
+    TownAir t = new TownAir();
     long made = bean.getThreadAllocatedBytes(id) - ahead;
     Due.is("bytes of an object (" + made + ")", made < 12000 ? 1 : 0, 1);
     Due.is("a new one", t.count(0), 5);
@@ -117,32 +118,33 @@ public final class RuleTest {
   /** Whatever the numbers are, a call answers, and bad ones change nothing. */
   static void anyNumbers() {
     int[] odd = {Integer.MIN_VALUE, -100, -4, -1, 0, 1, 2, 3, 5, 6, 60, 99, 100, 127, 999, 65536, Integer.MAX_VALUE};
-    TownAir t = new TownAir();
     for (int a : odd) {
-      t.write(a);
-      t.leave(a);
-      t.pass(a);
-      t.ends(a);
-      t.lords(a);
-      t.leap(a);
-      t.count(a);
-      for (int b : odd) {
-        t.serf(a, b);
-        t.man(a, b);
-        t.move(a, b);
-        t.send(a, b);
-        t.live(a, b);
-        t.way(a, b);
-        t.hunt(a, b);
-        t.proof(a, b);
-        t.gap(a, b);
-        for (int c : odd) {
-          t.behind(a, b, c);
-          t.seen(a, b, c);
-          t.year(a, b, c);
-          for (int d : odd) t.sure(a, b, c, d);
-        }
-      }
+      for (int b : odd) anyNumbers(new TownAir(), a, b, odd);
+    }
+  }
+
+  static void anyNumbers(TownAir t, int a, int b, int[] odd) {
+    t.write(a);
+    t.leave(a);
+    t.pass(a);
+    t.ends(a);
+    t.lords(a);
+    t.leap(a);
+    t.count(a);
+    t.serf(a, b);
+    t.man(a, b);
+    t.move(a, b);
+    t.send(a, b);
+    t.live(a, b);
+    t.way(a, b);
+    t.hunt(a, b);
+    t.proof(a, b);
+    t.gap(a, b);
+    for (int c : odd) {
+      t.behind(a, b, c);
+      t.seen(a, b, c);
+      t.year(a, b, c);
+      for (int d : odd) t.sure(a, b, c, d);
     }
     Due.is("still a town", t.count(0), 5);
   }
